@@ -1,0 +1,84 @@
+/** Counts the answers that are not due, and what the tests write often. */
+final class Check {
+    private final String name;
+    private int tried;
+    private int wrong;
+
+    Check(String name) {
+        this.name = name;
+    }
+
+    void due(String call, long got, long want) {
+        tried++;
+        if (got != want) {
+            wrong++;
+            System.out.println(name + ": " + call + " answered " + got + ", due is " + want);
+        }
+    }
+
+    void end() {
+        System.out.println(name + ": " + tried + " answers, " + wrong + " not as due");
+        if (wrong > 0) {
+            System.exit(1);
+        }
+    }
+
+    /** An object with CARDS of KIND 0 that COUNT these numbers. */
+    static TwoHeapsAlike with(int... numbers) {
+        TwoHeapsAlike x = new TwoHeapsAlike();
+        for (int number : numbers) {
+            x.card(0, number);
+        }
+        return x;
+    }
+
+    /** Lays the CARDS of two HEAPS to the LEFT and to the RIGHT, all others ASIDE. */
+    static void lay(TwoHeapsAlike x, int left, int right) {
+        for (int c = 0; c < x.count(0); c++) {
+            x.lay(c, (left >> c & 1) == 1 ? 1 : (right >> c & 1) == 1 ? 2 : 0);
+        }
+    }
+
+    static void tape(TwoHeapsAlike x, String text) {
+        for (int i = 0; i < text.length(); i++) {
+            x.feed(1, text.charAt(i), 0, 0, 0, 0);
+        }
+    }
+
+    /** What text() answers of this. */
+    static int text(TwoHeapsAlike x, String text) {
+        tape(x, text);
+        return x.text();
+    }
+
+    /** Makes this THE LAW. */
+    static void force(TwoHeapsAlike x, String text) {
+        x.force(text(x, text));
+    }
+
+    /** 1, if number i of a SHEET is this one (-999 .. 998), else 0: it is SUM of a CARD that COUNTS so. */
+    static int isNumber(TwoHeapsAlike x, int s, int i, int number) {
+        int before = x.image();
+        for (int c = before; c > 0; c--) {
+            x.drop();
+        }
+        x.force(0);
+        x.card(number < 0 ? 40 : 0, Math.abs(number));
+        x.card(0, 999);
+        // All of its places hold what is copied from place i: so it must be of the same sort, and small.
+        x.film(3, 0, 1);
+        boolean ints = x.copy(s, i, 3, 0, 1) == 1;
+        x.copy(s, i, 3, 1, 1);
+        boolean same = ints && x.seen(3, 0) == -1 && x.seen(3, 1) == (number == 0 ? 4 : 2);
+        x.back();
+        return same ? 1 : 0;
+    }
+
+    /** A SHEET of ints becomes this row. */
+    static void sheet(TwoHeapsAlike x, int s, int... row) {
+        x.sheet(s, 2, row.length);
+        for (int i = 0; i < row.length; i++) {
+            x.cell(s, i, row[i]);
+        }
+    }
+}
