@@ -1431,10 +1431,9 @@ public final class TwoHeapsAlike {
 
         /** Which card is asked for first among a set of candidates, and what that costs. */
         private void ask(int set, int[] found) {
-            boolean known = (set & set - 1) == 0;
             found[0] = 0;
             found[1] = NONE;
-            for (int c = 0; c < CARDS && !known; c++) {
+            for (int c = 0; c < CARDS; c++) {
                 int with = set & holders[c];
                 if (with == 0 || with == set) {
                     continue;

@@ -56,22 +56,25 @@ final class Check {
         x.force(text(x, text));
     }
 
-    /** 1, if number i of a SHEET is this one (-999 .. 998), else 0: it is SUM of a CARD that COUNTS so. */
+    /** 1, if number i of a SHEET (0 .. 2) is this one (-999 .. 998), else 0: it is the SUM of a CARD that COUNTS so. */
     static int isNumber(TwoHeapsAlike x, int s, int i, int number) {
-        int before = x.image();
-        for (int c = before; c > 0; c--) {
+        for (int sort = 0; sort < 3; sort++) {
+            x.sheet(3, sort, 1);
+            if (x.copy(s, i, 3, 0, 1) == 1) {
+                break;
+            }
+        }
+        x.image();
+        x.force(0);
+        for (int c = x.count(0); c > 0; c--) {
             x.drop();
         }
-        x.force(0);
+        boolean isNone = x.seen(3, 0) == -1;
         x.card(number < 0 ? 40 : 0, Math.abs(number));
         x.card(0, 999);
-        // All of its places hold what is copied from place i: so it must be of the same sort, and small.
-        x.film(3, 0, 1);
-        boolean ints = x.copy(s, i, 3, 0, 1) == 1;
-        x.copy(s, i, 3, 1, 1);
-        boolean same = ints && x.seen(3, 0) == -1 && x.seen(3, 1) == (number == 0 ? 4 : 2);
+        boolean isOne = x.seen(3, 0) == -1 && x.seen(3, 1) == (number == 0 ? 2 : 1);
         x.back();
-        return same ? 1 : 0;
+        return isOne && isNone == (number == 0) ? 1 : 0;
     }
 
     /** A SHEET of ints becomes this row. */

@@ -105,8 +105,7 @@ public final class FormTest {
     private static void language(String source) {
         String code = code(source);
         String[] words = {"throw", "throws", "try", "catch", "finally", "synchronized", "assert", "import", "package",
-            "instanceof", "while", "do", "volatile", "native", "strictfp", "transient", "yield", "var", "double",
-            "float", "Object", "String\\s*\\[", "String\\.", "Exact", "hashCode", "toString", "equals", "System\\.[^a]"};
+            "volatile", "native", "transient", "Object", "String\\s*\\[", "String\\.", "Exact", "hashCode", "toString", "equals", "System\\.[^a]"};
         for (String word : words) {
             due("none of '" + word + "'", !Pattern.compile("\\b" + word + "(\\b|(?<=\\W))").matcher(code).find());
         }

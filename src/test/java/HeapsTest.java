@@ -96,7 +96,9 @@ public final class HeapsTest {
         due("15 three(-1)", Check.with(1).three(-1), -2);
         due("15 three(4)", Check.with(1).three(4), -2);
         due("15 none", Check.with(1, 2, 4).three(0), 0);
-        due("15 none: first", Check.with(1, 2, 4).three(1), -1);
+        for (int what = 1; what < 4; what++) {
+            due("15 none: three(" + what + ")", Check.with(1, 2, 4).three(what), -1);
+        }
         TwoHeapsAlike x = Check.with(5, 1, 5, 2, 3, 4);
         // 5; 5; 2 + 3 or 1 + 4; and 5; 1 + 4; 2 + 3 with either 5.
         due("15 how many", x.three(0), 4);

@@ -6,19 +6,6 @@ public final class HostTest {
         check.due(call, got, want);
     }
 
-    /** Whether the only number of a SHEET of any sort is this one, as the SUM of a CARD. */
-    private static void isOnly(String of, TwoHeapsAlike x, int s, int want) {
-        x.image();
-        for (int c = x.count(0); c > 0; c--) {
-            x.drop();
-        }
-        x.card(want < 0 ? 40 : 0, Math.abs(want));
-        x.card(0, 999);
-        due(of, x.seen(s, 0), -1);
-        due(of + " and nothing else", x.seen(s, 1), want == 0 ? 2 : 1);
-        x.back();
-    }
-
     private static void promise37() {
         TwoHeapsAlike x = new TwoHeapsAlike();
         due("37 sheet(-1, ..)", x.sheet(-1, 0, 1), -2);
@@ -58,19 +45,19 @@ public final class HostTest {
         due("38 place 1", x.cell(0, 1, 1), -12);
         due("38 place far off", x.cell(0, Integer.MIN_VALUE, 1), -12);
         due("38 a byte", x.cell(0, 0, 127), 1);
-        isOnly("38 byte 127", x, 0, 127);
+        due("38 byte 127", Check.isNumber(x, 0, 0, 127), 1);
         x.cell(0, 0, 128);
-        isOnly("38 byte 128", x, 0, -128);
+        due("38 byte 128", Check.isNumber(x, 0, 0, -128), 1);
         x.cell(0, 0, 0x7fffff05);
-        isOnly("38 a byte's lowest 8 bits", x, 0, 5);
+        due("38 a byte's lowest 8 bits", Check.isNumber(x, 0, 0, 5), 1);
         x.cell(1, 0, 998);
-        isOnly("38 short 998", x, 1, 998);
+        due("38 short 998", Check.isNumber(x, 1, 0, 998), 1);
         x.cell(1, 0, 0x7ffffff6);
-        isOnly("38 a short's lowest 16 bits", x, 1, -10);
+        due("38 a short's lowest 16 bits", Check.isNumber(x, 1, 0, -10), 1);
         x.cell(1, 0, 0x10007);
-        isOnly("38 a short's lowest 16 bits, too", x, 1, 7);
+        due("38 a short's lowest 16 bits, too", Check.isNumber(x, 1, 0, 7), 1);
         x.cell(2, 0, -500);
-        isOnly("38 an int", x, 2, -500);
+        due("38 an int", Check.isNumber(x, 2, 0, -500), 1);
         x.cell(2, 0, 0x10007);
         x.card(0, 7);
         due("38 all of an int", x.seen(2, 0), 0);

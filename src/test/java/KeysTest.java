@@ -32,9 +32,11 @@ public final class KeysTest {
         due("21 1 2", Check.with(1, 2).next(), 4);
         due("21 3", Check.with(3).next(), 1);
         due("21 3 5", Check.with(3, 5).next(), 1);
-        // 1, 2, 3, 4, 5, 6, 7, 8, .. are how far SUMS of 3 5 6 are apart, till 14.
         due("21 1 2 4 to 256", Check.with(1, 2, 4, 8, 16, 32, 64, 128, 256).next(), 512);
         due("21 ten CARDS", Check.with(1, 2, 4, 8, 16, 32, 64, 128, 256, 512).next(), -1);
+        // How far SUMS of 1 3 9 .. 243 are apart: all of 1 .. 364; so with 634 more all of 1 .. 998.
+        due("21 the greatest one", Check.with(1, 3, 9, 27, 81, 243, 634).next(), 999);
+        due("21 none up to 999", Check.with(1, 3, 9, 27, 81, 243, 635).next(), -1);
         due("21 not unlike now", Check.with(2, 2).next(), -1);
         due("21 a 0", Check.with(0).next(), -1);
         TwoHeapsAlike x = new TwoHeapsAlike();

@@ -99,6 +99,8 @@ public final class LawTest {
         fault("counts 1; moves 1; asks 1", 25);
         fault("counts 1; moves 1; asks 1 ; ;", 28);
         fault("counts 1; moves 1; asks 1; counts", 27);
+        fault("counts 1; moves 1; asks 1;\0", 26);
+        fault("counts 1; moves 1; asks 1; \u00ff", 27);
         fault("counts1;moves 1;asks 1;x", 23);
         fault("countsnumber; moves 1; asks 1;", 0);
         due("4 text without blanks", Check.text(new TwoHeapsAlike(), "counts 1;moves 1;asks 1;"), 1);
@@ -107,6 +109,8 @@ public final class LawTest {
         faultOfCounts("1 2", 2);
         faultOfCounts("1 number", 2);
         faultOfCounts("foo", 0);
+        faultOfCounts("xumber", 0);
+        faultOfCounts("numbes", 0);
         faultOfCounts("1 + numbers", 4);
         faultOfCounts("12345", 0);
         faultOfCounts("1+00001", 2);
@@ -177,6 +181,7 @@ public final class LawTest {
         x.card(0, 5);
         x.card(37, 40);
         x.card(0, 6);
+        x.card(0, 8);
         due("6 '" + expression + "' of CARD 1", value(x, expression, 1, 1), want);
     }
 
@@ -195,7 +200,7 @@ public final class LawTest {
         says("number", 40);
         says("more", 7);
         says("card", 1);
-        says("many", 3);
+        says("many", 4);
         says("kind", 3);
         says("left", 1);
         says("0012", 12);
@@ -215,7 +220,9 @@ public final class LawTest {
         says("not 1 < 2", 0);
         says("not not 5", 1);
         says("5 and 7", 1);
+        says("1 and 7", 1);
         says("5 and 0", 0);
+        says("0 and 5", 0);
         says("0 or 7", 1);
         says("0 or 0", 0);
         says("1 or 0 and 0", 1);

@@ -127,9 +127,14 @@ public final class OracleTest {
         }
     }
 
+    /** Mostly plain ones; some so deep that too much is open, or that the tape has no room for them. */
+    private int depth() {
+        return oneIn(6) ? between(4, 8) : between(0, 3);
+    }
+
     private String words() {
-        String text = "counts " + expression(between(0, 3)) + ";moves " + expression(between(0, 3))
-            + "; asks " + expression(between(0, 3)) + " ;" + (oneIn(3) ? "\n " : "");
+        String text = "counts " + expression(depth()) + ";moves " + expression(depth())
+            + "; asks " + expression(depth()) + " ;" + (oneIn(3) ? "\n " : "");
         if (oneIn(4)) {
             int at = random.nextInt(text.length() + 1);
             String[] odd = {"(", ")", "not ", "-", "x", "12345", "$", ";", " ", "counts", "<", "\t", "é"};

@@ -89,6 +89,15 @@ public final class PartedTest {
         due("18 SUMS as they lie then", x.swap(0), 1);
         due("18 SUMS as they lie then: how far", x.swap(1), 1);
         due("18 nothing is changed", x.apart(), 9);
+        x = Check.with(3, 8, 2);
+        Check.force(x, "counts number + card * left; moves 1; asks 1;");
+        // 9 to 5: 8 (9 to the LEFT) for 3 leaves 3 to 10, for 2 leaves 4 to 11.
+        Check.lay(x, 2, 5);
+        due("18 none by where they lie then", x.swap(0), -1);
+        Check.lay(x, 6, 1);
+        // 13 to 3: 8 for 3 leaves 7 to 8, 2 for 3 leaves 12 to 2.
+        due("18 the first CARD to the RIGHT", x.swap(0), 10);
+        due("18 the first CARD to the RIGHT: how far", x.swap(1), 1);
     }
 
     private static void mend(String of, TwoHeapsAlike x, int most, int cost, int left) {
