@@ -332,11 +332,8 @@ public final class TwoHeapsAlike {
     }
 
     public long more(int s, int c) {
-        int refusal = refusalOfRows(s);
-        if (refusal != 0) {
-            return refusal;
-        }
-        if (!table.has(c)) {
+        // BAD and -11 are also numbers by which a card could count more, so what judge refuses is NO, too.
+        if (refusalOfRows(s) != 0 || !table.has(c)) {
             return NO;
         }
         weigh(law());

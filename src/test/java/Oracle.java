@@ -771,10 +771,7 @@ final class Oracle {
     }
 
     long more(int s, int c) {
-        if (refusal(s) != 0) {
-            return refusal(s);
-        }
-        if (!isCard(c)) {
+        if (refusal(s) != 0 || !isCard(c)) {
             return NO;
         }
         int[] counts = counted(law);

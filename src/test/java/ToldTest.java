@@ -19,19 +19,19 @@ public final class ToldTest {
         for (int s : bad) {
             due("26 judge(" + s + ")", x.judge(s), -2);
             due("27 blame(" + s + ")", x.blame(s), -2);
-            due("28 more(" + s + ", 0)", x.more(s, 0), -2);
+            due("28 more(" + s + ", 0)", x.more(s, 0), TwoHeapsAlike.NO);
             due("29 laws(" + s + ")", x.laws(s), -2);
         }
         due("26 judge of a missing one", x.judge(0), -11);
         due("27 blame of a missing one", x.blame(0), -11);
-        due("28 more of a missing one", x.more(0, 0), -11);
+        due("28 more of a missing one", x.more(0, 0), TwoHeapsAlike.NO);
         due("29 laws of a missing one", x.laws(0), -11);
         int[][] rows = {{1, 3, 2}, {8, 3}, {-1, 3}, {1, 4, 8, 1}};
         for (int[] row : rows) {
             x = rows(row);
             due("26 judge of what is no row", x.judge(0), -2);
             due("27 blame of what is no row", x.blame(0), -2);
-            due("28 more of what is no row", x.more(0, 0), -2);
+            due("28 more of what is no row", x.more(0, 0), TwoHeapsAlike.NO);
             due("29 laws of what is no row", x.laws(0), -2);
         }
     }
@@ -86,6 +86,11 @@ public final class ToldTest {
         Check.force(x, "counts -9; moves 1; asks 1;");
         due("28 beyond an int", x.more(0, 0), 2147483656L);
         due("28 beyond an int: blame", x.blame(0), 1);
+        // What is refused and these can be told apart.
+        due("28 more by BAD", rows(1, 1).more(0, 0), -2);
+        due("28 more by -11", rows(1, -8).more(0, 0), -11);
+        due("28 more of no CARD by a missing one", Check.with(3).more(0, 1), TwoHeapsAlike.NO);
+        due("28 more on a new object", new TwoHeapsAlike().more(0, 0), TwoHeapsAlike.NO);
     }
 
     private static void promise29() {
