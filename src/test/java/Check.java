@@ -1,87 +1,78 @@
-/** Counts the answers that are not due, and what the tests write often. */
+import java.io.IOException;
+
+/**
+ * Goes through sections of the document, sentence by sentence, and counts the answers that are not due.
+ * It fails, too, if a sentence isn't the document's, if nothing was tried of it, or if one was left out.
+ */
 final class Check {
     private final String name;
+    private final Document document;
+    private final String[] sections;
+    private String section = "";
+    private String sentence = "";
+    private int triedOfIt = 1;
+    private int sentences;
     private int tried;
     private int wrong;
 
-    Check(String name) {
+    Check(String name, String document, String... sections) throws IOException {
         this.name = name;
+        this.document = new Document(document);
+        this.sections = sections;
+    }
+
+    void section(String section) {
+        endSentence();
+        this.section = section;
+        sentence = "";
+    }
+
+    /** What is tried from here on is what the document says so. */
+    void says(String sentence) {
+        endSentence();
+        this.sentence = sentence;
+        triedOfIt = 0;
+        sentences++;
+        if (!document.say(section, sentence)) {
+            fail("the document does not say so, or not once more");
+        }
+    }
+
+    private void endSentence() {
+        if (triedOfIt == 0) {
+            fail("nothing was tried");
+        }
+        triedOfIt = 1;
     }
 
     void due(String call, long got, long want) {
         tried++;
+        triedOfIt++;
         if (got != want) {
-            wrong++;
-            System.out.println(name + ": " + call + " answered " + got + ", due is " + want);
+            fail(call + " answered " + got + ", due is " + want);
         }
+    }
+
+    void due(String what, boolean so) {
+        due(what, so ? 1 : 0, 1);
+    }
+
+    private void fail(String what) {
+        wrong++;
+        System.out.println(name + ", section " + section + ", \"" + sentence + "\": " + what);
     }
 
     void end() {
-        System.out.println(name + ": " + tried + " answers, " + wrong + " not as due");
-        if (wrong > 0) {
-            System.exit(1);
-        }
-    }
-
-    /** An object with CARDS of KIND 0 that COUNT these numbers. */
-    static TwoHeapsAlike with(int... numbers) {
-        TwoHeapsAlike x = new TwoHeapsAlike();
-        for (int number : numbers) {
-            x.card(0, number);
-        }
-        return x;
-    }
-
-    /** Lays the CARDS of two HEAPS to the LEFT and to the RIGHT, all others ASIDE. */
-    static void lay(TwoHeapsAlike x, int left, int right) {
-        for (int c = 0; c < x.count(0); c++) {
-            x.lay(c, (left >> c & 1) == 1 ? 1 : (right >> c & 1) == 1 ? 2 : 0);
-        }
-    }
-
-    static void tape(TwoHeapsAlike x, String text) {
-        for (int i = 0; i < text.length(); i++) {
-            x.feed(1, text.charAt(i), 0, 0, 0, 0);
-        }
-    }
-
-    /** What text() answers of this. */
-    static int text(TwoHeapsAlike x, String text) {
-        tape(x, text);
-        return x.text();
-    }
-
-    /** Makes this THE LAW. */
-    static void force(TwoHeapsAlike x, String text) {
-        x.force(text(x, text));
-    }
-
-    /** 1, if number i of a SHEET (0 .. 2) is this one (-999 .. 998), else 0: it is the SUM of a CARD that COUNTS so. */
-    static int isNumber(TwoHeapsAlike x, int s, int i, int number) {
-        for (int sort = 0; sort < 3; sort++) {
-            x.sheet(3, sort, 1);
-            if (x.copy(s, i, 3, 0, 1) == 1) {
-                break;
+        section("");
+        for (String s : sections) {
+            for (String left : document.left(s)) {
+                section = s;
+                fail("no test for \"" + left + "\"");
             }
         }
-        x.image();
-        x.force(0);
-        for (int c = x.count(0); c > 0; c--) {
-            x.drop();
-        }
-        boolean isNone = x.seen(3, 0) == -1;
-        x.card(number < 0 ? 40 : 0, Math.abs(number));
-        x.card(0, 999);
-        boolean isOne = x.seen(3, 0) == -1 && x.seen(3, 1) == (number == 0 ? 2 : 1);
-        x.back();
-        return isOne && isNone == (number == 0) ? 1 : 0;
-    }
-
-    /** A SHEET of ints becomes this row. */
-    static void sheet(TwoHeapsAlike x, int s, int... row) {
-        x.sheet(s, 2, row.length);
-        for (int i = 0; i < row.length; i++) {
-            x.cell(s, i, row[i]);
+        System.out.println(name + ": " + sentences + " sentences, " + tried + " answers, " + wrong + " not as due");
+        if (wrong > 0) {
+            System.exit(1);
         }
     }
 }

@@ -4,24 +4,27 @@ import java.lang.reflect.Method;
 import java.lang.reflect.Modifier;
 import java.nio.file.Files;
 import java.nio.file.Path;
+import java.util.ArrayList;
 import java.util.Arrays;
+import java.util.List;
+import java.util.Map;
 import java.util.Set;
+import java.util.TreeMap;
 import java.util.TreeSet;
 import java.util.regex.Matcher;
 import java.util.regex.Pattern;
 
 /** The face of the class, as the document writes it, and those rules of LANGUAGE.md that a text search can see. */
 public final class FormTest {
-    private static final Check check = new Check("FormTest");
+    private static Check check;
 
-    private static final int MOST_LINES = 60, MOST_CLASSES = 12, MOST_FIELDS = 20, MOST_PARAMETERS = 7;
+    private static final int MOST_LINES = 60, MOST_DEEP = 8, MOST_CLASSES = 12, MOST_FIELDS = 20, MOST_PARAMETERS = 7;
 
     private static void due(String what, boolean so) {
-        check.due(what, so ? 1 : 0, 1);
+        check.due(what, so);
     }
 
-    private static Set<String> faceOfDocument(String document) {
-        String face = document.substring(document.indexOf("## The public face"), document.indexOf("## Terms"));
+    private static Set<String> faceOfDocument(String face) {
         Set<String> methods = new TreeSet<>();
         Matcher m = Pattern.compile("public (int|long) (\\w+)\\((.*?)\\);").matcher(face);
         while (m.find()) {
@@ -43,13 +46,13 @@ public final class FormTest {
         return methods;
     }
 
-    private static void face(String document) {
+    private static void face(String face) {
         int modifiers = TwoHeapsAlike.class.getModifiers();
         due("public and final", Modifier.isPublic(modifiers) && Modifier.isFinal(modifiers));
         Constructor<?>[] constructors = TwoHeapsAlike.class.getDeclaredConstructors();
         due("one constructor", constructors.length == 1 && Modifier.isPublic(constructors[0].getModifiers())
             && constructors[0].getParameterCount() == 0);
-        Set<String> told = faceOfDocument(document);
+        Set<String> told = faceOfDocument(face);
         due("40 methods are told", told.size() == 40);
         due("the methods of the document and no others", told.equals(faceOfClass()));
         Set<String> constants = new TreeSet<>();
@@ -119,6 +122,78 @@ public final class FormTest {
             due("made once: " + m.group(), m.start() < made || m.group(1).matches("\\s+(private )?final .* = "));
         }
         methodLengths(source);
+        library(code);
+        callDepth(code);
+    }
+
+    /** Capitals begin constants, the program's own classes, and these. */
+    private static void library(String code) {
+        Set<String> known = new TreeSet<>(Set.of("String", "Math", "Integer", "System"));
+        for (Class<?> c : TwoHeapsAlike.class.getDeclaredClasses()) {
+            known.add(c.getSimpleName());
+        }
+        known.add("TwoHeapsAlike");
+        Matcher m = Pattern.compile("\\b[A-Z]\\w*[a-z]\\w*").matcher(code);
+        while (m.find()) {
+            due("a class of its own, or of the library's list: " + m.group(), known.contains(m.group()));
+        }
+        m = Pattern.compile("\\b(Math|Integer|System)\\.(\\w+)").matcher(code);
+        while (m.find()) {
+            due("on the library's list: " + m.group(), Set.of("abs", "min", "max", "bitCount", "arraycopy").contains(m.group(2)));
+        }
+    }
+
+    /** Which of the program's methods each of them calls; those of one name count as one. */
+    private static Map<String, Set<String>> callsOf(String code) {
+        Map<String, Set<String>> calls = new TreeMap<>();
+        Matcher m = Pattern.compile("(?m)^( {4}| {8})(?:[\\w\\[\\]]+ )+(\\w+)\\([^;]*\\) \\{$").matcher(code);
+        while (m.find()) {
+            String body = code.substring(m.end(), code.indexOf("\n" + m.group(1) + "}", m.end()));
+            Set<String> called = calls.computeIfAbsent(m.group(2), name -> new TreeSet<>());
+            Matcher call = Pattern.compile("\\b(\\w+)\\(").matcher(body);
+            while (call.find()) {
+                called.add(call.group(1));
+            }
+        }
+        calls.values().forEach(called -> called.retainAll(calls.keySet()));
+        return calls;
+    }
+
+    private static Set<String> reached(Map<String, Set<String>> calls, String from) {
+        Set<String> reached = new TreeSet<>();
+        List<String> left = new ArrayList<>(calls.get(from));
+        while (!left.isEmpty()) {
+            String name = left.remove(left.size() - 1);
+            if (reached.add(name)) {
+                left.addAll(calls.get(name));
+            }
+        }
+        return reached;
+    }
+
+    /** How deep calls go from here; those that call one another again count as one. */
+    private static int depth(Map<String, Set<String>> calls, String from, int open) {
+        int deepest = 1;
+        for (String name : reached(calls, from)) {
+            boolean again = reached(calls, name).contains(from);
+            if (!again && open < MOST_DEEP + 2) {
+                deepest = Math.max(deepest, 1 + depth(calls, name, open + 1));
+            }
+        }
+        return deepest;
+    }
+
+    private static void callDepth(String code) {
+        Map<String, Set<String>> calls = callsOf(code);
+        due("there are calls", calls.size() > 80 && calls.get("text").contains("readInto"));
+        for (String name : calls.keySet()) {
+            due("calls go at most eight deep: " + name, depth(calls, name, 1) <= MOST_DEEP);
+        }
+        // The one recursion, a method for each rule of a TEXT's grammar, goes as deep as five are open.
+        Set<String> again = new TreeSet<>();
+        calls.keySet().stream().filter(name -> reached(calls, name).contains(name)).forEach(again::add);
+        due("no other recursion: " + again,
+            again.equals(Set.of("either", "both", "denied", "compared", "sum", "term", "one")));
     }
 
     private static void methodLengths(String source) {
@@ -136,9 +211,9 @@ public final class FormTest {
     }
 
     public static void main(String[] args) throws Exception {
-        String document = Files.readString(Path.of(args[0]));
+        check = new Check("FormTest", args[0]);
         String source = Files.readString(Path.of(args[1]));
-        face(document);
+        face(new Document(args[0]).face());
         classes();
         language(source);
         check.end();

@@ -4,6 +4,7 @@ import java.util.Arrays;
 import java.util.LinkedHashMap;
 import java.util.List;
 import java.util.Map;
+import java.util.Set;
 import java.util.SplittableRandom;
 
 /** Long runs of calls, the same ones each time, on the program and on the oracle. */
@@ -236,6 +237,74 @@ public final class OracleTest {
         }
     }
 
+    // ---- bounds
+
+    /** How far an argument goes on this object: as many CARDS, HEAPS, places as there are. */
+    private int greatestNow(String name, int greatest, int cards) {
+        return greatest == 9 ? cards - 1 : greatest == 1023 ? (1 << cards) - 1
+            : greatest == 39 || greatest == 40 && !name.equals("odds") ? 4 : greatest;
+    }
+
+    private int[] bounds(String name, int i, int cards) {
+        int least = RANGES.get(name)[2 * i];
+        int greatest = RANGES.get(name)[2 * i + 1];
+        int now = greatestNow(name, greatest, cards);
+        return new int[] {least, least + 1, least - 1, greatest - 1, greatest, greatest + 1, now, now + 1, now - 1,
+            Integer.MIN_VALUE, Integer.MAX_VALUE};
+    }
+
+    /** CARDS of all KINDS on all SIDES, a law, an IMAGE, SHEETS of every sort. */
+    private void prepare(int cards) throws Exception {
+        for (int c = 0; c < cards; c++) {
+            call("card", 10 * between(0, 5) + between(0, 9), between(0, 9));
+            call("lay", c, between(0, 2));
+        }
+        writeText();
+        call("image");
+        call("film", 0, 0, 2);
+        call("sheet", 1, 0, 4);
+        call("sheet", 2, 1, 5);
+    }
+
+    /** Calls with every two of their arguments at bounds, on objects with so many CARDS. */
+    private static long tryBounds(int cards) throws Exception {
+        OracleTest test = new OracleTest(cards);
+        test.prepare(cards);
+        long calls = 0;
+        for (String name : RANGES.keySet()) {
+            int parameters = RANGES.get(name).length / 2;
+            boolean dear = Set.of("three", "thirds", "alike", "next").contains(name);
+            for (int i = 0; i < parameters && !(dear && cards > 7); i++) {
+                for (int j = i; j < parameters; j++) {
+                    for (int a : test.bounds(name, i, cards)) {
+                        for (int b : test.bounds(name, j, cards)) {
+                            if (test.calls >= MOST_CALLS - 1) {
+                                test = new OracleTest(cards + (int) calls);
+                                test.prepare(cards);
+                            }
+                            test.callAt(name, i, a, j, b);
+                            calls++;
+                        }
+                    }
+                }
+            }
+        }
+        return calls;
+    }
+
+    private void callAt(String name, int i, int a, int j, int b) throws Exception {
+        int[] ranges = RANGES.get(name);
+        int cards = (int) call("count", 0);
+        int[] args = new int[ranges.length / 2];
+        for (int k = 0; k < args.length; k++) {
+            int least = ranges[2 * k];
+            args[k] = between(least, Math.max(least, Math.min(5, greatestNow(name, ranges[2 * k + 1], cards))));
+        }
+        args[i] = a;
+        args[j] = b;
+        call(name, args);
+    }
+
     public static void main(String[] args) throws Exception {
         int runs = args.length > 0 ? Integer.parseInt(args[0]) : 300;
         if (PROGRAM.size() != RANGES.size() || ORACLE.size() != RANGES.size()) {
@@ -249,5 +318,7 @@ public final class OracleTest {
             calls += test.calls;
         }
         System.out.println("OracleTest: " + calls + " calls in " + runs + " runs are as the oracle's");
+        System.out.println("OracleTest: " + (tryBounds(0) + tryBounds(1) + tryBounds(4) + tryBounds(10))
+            + " calls at bounds are as the oracle's");
     }
 }
