@@ -72,6 +72,19 @@ public final class KeysTest {
         x = Given.cards(1, 1);
         Given.law(x, "counts (many - 1) * (card + 1); moves 1; asks 1;");
         due("SUMS as now: 1 and 2, not 2 and 4", x.next(), 4);
+        x = Given.cards(1, 2, 4);
+        due("1 2 4", x.next(), 8);
+        x.drop();
+        x.drop();
+        due("1, behind 1 2 4", x.next(), 2);
+        x.drop();
+        x.card(0, 999);
+        due("999", x.next(), 1);
+        x.drop();
+        for (int number : new int[] {1, 3, 9, 27, 81, 243, 634}) {
+            x.card(0, number);
+        }
+        due("the greatest one, behind 999", x.next(), 999);
         check.says("-1: there is none");
         due("ten CARDS, 1 to 512", Given.cards(POWERS).next(), -1);
         due("none up to 999", Given.cards(1, 3, 9, 27, 81, 243, 635).next(), -1);
@@ -236,6 +249,9 @@ public final class KeysTest {
         question("1 and four", Given.cards(9, 1, 1, 1, 1), 2, 3, 1);
         question("one of 3 1 1", costing(3, 1, 1), 1, 2, 1);
         question("one of 1 3 1", costing(1, 3, 1), 1, 2, 0);
+        x = Given.cards(1, 2, 3, 4);
+        question("{2} or {0, 1}", x, 3, 1, 0);
+        question("{1, 2} or {0, 3}, behind another SUM", x, 5, 1, 0);
         check.says("-1: it is known at once).");
         question("of a new object", new TwoHeapsAlike(), 0, 0, -1);
         question("1", Given.cards(1), 1, 0, -1);

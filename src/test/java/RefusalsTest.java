@@ -306,6 +306,9 @@ public final class RefusalsTest {
             TwoHeapsAlike x = debts();
             before.getValue().on(x);
             due(call + " behind " + before.getKey(), asked.on(x), asked.on(debts()));
+            x = few();
+            before.getValue().on(x);
+            due("of few " + call + " behind " + before.getKey(), asked.on(x), asked.on(few()));
         }
     }
 
