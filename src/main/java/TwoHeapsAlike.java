@@ -1286,7 +1286,8 @@ public final class TwoHeapsAlike {
         /** Orders all heaps by their sums, those of one sum as bits. */
         private void order() {
             ordered[0] = 0;
-            for (int bit = 1; bit <= all; bit *= 2) {
+            for (int c = 0; c < CARDS && 1 << c <= all; c++) {
+                int bit = 1 << c;
                 merge(bit);
                 for (int i = 0; i < 2 * bit; i++) {
                     ordered[i] = merged[i];

@@ -5,6 +5,8 @@ import java.util.ArrayList;
 import java.util.LinkedHashMap;
 import java.util.List;
 import java.util.Map;
+import java.util.regex.Matcher;
+import java.util.regex.Pattern;
 
 /** What the document says, in sections: its terms, its refusals, how long it is used, each promise. */
 final class Document {
@@ -45,6 +47,16 @@ final class Document {
 
     String face() {
         return between("## The public face", "## Terms");
+    }
+
+    /** By what the interface says ahead of them, the calls of each group. */
+    Map<String, List<String>> groups() {
+        Map<String, List<String>> groups = new LinkedHashMap<>();
+        Matcher m = Pattern.compile("(?m)^Ahead of the calls (.*) the interface says: ---- (.*)\\.$").matcher(whole);
+        while (m.find()) {
+            groups.put(m.group(2), List.of(m.group(1).replace("`", "").split(", ")));
+        }
+        return groups;
     }
 
     /** Marks a sentence, the first one of these words that isn't marked yet: whether there is one. */

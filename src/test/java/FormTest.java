@@ -69,6 +69,23 @@ public final class FormTest {
         check.due("NO", TwoHeapsAlike.NO, -(1L << 62));
     }
 
+    /** The calls stand in the document's order, each group behind what the interface says ahead of it. */
+    private static void groups(Map<String, List<String>> groups, String source) {
+        List<String> told = new ArrayList<>();
+        groups.forEach((says, calls) -> {
+            told.add("---- " + says);
+            told.addAll(calls);
+        });
+        List<String> written = new ArrayList<>();
+        Matcher m = Pattern.compile("(?m)^    (?:// (---- .*)|public (?:int|long) (\\w+)\\(.*)$").matcher(source);
+        while (m.find()) {
+            written.add(m.group(1) != null ? m.group(1) : m.group(2));
+        }
+        due("eight groups of 40 calls are told", groups.size() == 8 && told.size() == 48);
+        due("the groups of the document: " + written,
+            written.size() >= told.size() && written.subList(0, told.size()).equals(told));
+    }
+
     private static void classes() {
         Class<?>[] inside = TwoHeapsAlike.class.getDeclaredClasses();
         due("classes", inside.length < MOST_CLASSES);
@@ -213,7 +230,9 @@ public final class FormTest {
     public static void main(String[] args) throws Exception {
         check = new Check("FormTest", args[0]);
         String source = Files.readString(Path.of(args[1]));
-        face(new Document(args[0]).face());
+        Document document = new Document(args[0]);
+        face(document.face());
+        groups(document.groups(), source);
         classes();
         language(source);
         check.end();
